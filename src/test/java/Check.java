@@ -44,8 +44,10 @@ final class Check {
   /** The call throws, and nothing that can be seen from outside is changed by it. */
   static void dueThrowUnchanged(SlidePark park, String what, Class<?> want, Call call) {
     String before = View.of(park);
+    int undoCount = park.undoCount();
     dueThrow(what, want, call);
     due("the state after " + what, View.of(park), before);
+    due("undoCount after " + what, park.undoCount(), undoCount);
   }
 
   static void fail(String message) {
