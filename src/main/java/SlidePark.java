@@ -22,6 +22,9 @@ public final class SlidePark {
   /** Stands for a slide, booking, minute or text position that there is not. */
   private static final int NONE = -1;
 
+  /** Later than every minute that an office comes to. */
+  private static final int NEVER = 2147483647;
+
   // An office that refuses a change answers one of these in place of a result, which is never
   // negative: so commands can be tried without catching an exception.
   private static final int NO_SUCH_INDEX = -1;
@@ -750,7 +753,7 @@ public final class SlidePark {
     }
 
     private int nextStartOrEnd(int time) {
-      int next = Integer.MAX_VALUE;
+      int next = NEVER;
       for (int booking = 0; booking < count; booking++) {
         if (starts[booking] > time) {
           next = Math.min(next, starts[booking]);

@@ -14,6 +14,7 @@ final class Check {
   static final Class<?> ARITHMETIC = ArithmeticException.class;
 
   private static int wrong = 0;
+  private static String about = "";
 
   private Check() {
   }
@@ -50,10 +51,15 @@ final class Check {
     due("undoCount after " + what, park.undoCount(), undoCount);
   }
 
+  /** What the next wrong answers are told to belong to. */
+  static void about(String test) {
+    about = test;
+  }
+
   static void fail(String message) {
     wrong++;
     if (wrong <= 50) {
-      System.out.println(message);
+      System.out.println(about + message);
     }
   }
 

@@ -27,7 +27,25 @@ public final class FaceTest {
           || Modifier.isPublic(method.getModifiers())
           || Modifier.isPrivate(method.getModifiers()), true);
     }
+    dueNoPublicNameTwice(SlidePark.class);
+    for (Class<?> inside : SlidePark.class.getDeclaredClasses()) {
+      dueNoPublicNameTwice(inside);
+      Check.due("static and not public " + inside, Modifier.isStatic(inside.getModifiers())
+          && !Modifier.isPublic(inside.getModifiers()), true);
+    }
+    Check.due("some twelve classes", SlidePark.class.getDeclaredClasses().length <= 11, true);
     Check.close("FaceTest");
+  }
+
+  private static void dueNoPublicNameTwice(Class<?> type) {
+    for (Method method : type.getDeclaredMethods()) {
+      if (Modifier.isPrivate(method.getModifiers())) {
+        for (Method shown : SlidePark.class.getMethods()) {
+          Check.due(method + " bears the name of a public method",
+              method.getName().equals(shown.getName()), false);
+        }
+      }
+    }
   }
 
   private static List<String> declaredFace() {

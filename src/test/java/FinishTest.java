@@ -1,4 +1,4 @@
-/** Promises 33 to 41: the finishes that are kept, photo finishes, splashes and the office's coins. */
+/** Promises 33 to 41: kept finishes, photo finishes, splashes and the office's coins. */
 public final class FinishTest {
   public static void main(String[] args) {
     finishesInOrder();

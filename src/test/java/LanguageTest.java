@@ -8,6 +8,7 @@ import java.util.regex.Pattern;
 public final class LanguageTest {
   private static final String[] RULED_OUT = {
     "->", "::", "\\bcatch\\b", "\\bfinally\\b", "\\bassert\\b", "\\bsynchronized\\b",
+    "\\b(Integer|Long)\\.[A-Z]", "\\bInteger\\[\\]",
     "\\bpackage\\b", "\\bprotected\\b", "Exact\\(", "\\bhashCode\\b", "\\btoString\\(\\)",
     "\\bObject\\b", "\\bMath\\.(?!max|min)", "\\bthrows? new (?!IllegalStateException|"
         + "IllegalArgumentException|IndexOutOfBoundsException|ArithmeticException|"

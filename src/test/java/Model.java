@@ -84,7 +84,8 @@ final class Model {
 
   private static final String COMMAND = "slide \\d \\d|guest|book \\d \\d \\d{1,4}|cancel \\d{1,2}"
       + "|queue \\d \\d|leave \\d|wait(?: \\d{1,2})?";
-  private static final Pattern TEXT = Pattern.compile("(?:" + COMMAND + ")(?:;(?:" + COMMAND + "))*");
+  private static final Pattern TEXT =
+      Pattern.compile("(?:" + COMMAND + ")(?:;(?:" + COMMAND + "))*");
 
   State state = new State();
   final List<State> past = new ArrayList<>();

@@ -11,24 +11,29 @@ final class View {
     view.append("minute ").append(park.minute()).append(" office ").append(park.officeCoins());
     view.append(" refunded ").append(park.refundedCoins()).append(" splashes ")
         .append(park.splashes());
-    for (int slide = 0; slide < park.slideCount(); slide++) {
+    int slides = park.slideCount();
+    for (int slide = 0; slide < slides; slide++) {
       view.append("\nslide ").append(park.duration(slide)).append(' ').append(park.price(slide))
           .append(' ').append(park.wetness(slide)).append(" queue");
-      for (int position = 0; position < park.queueLength(slide); position++) {
+      int length = park.queueLength(slide);
+      for (int position = 0; position < length; position++) {
         view.append(' ').append(park.queuedGuest(slide, position));
       }
     }
-    for (int guest = 0; guest < park.guestCount(); guest++) {
+    int guests = park.guestCount();
+    for (int guest = 0; guest < guests; guest++) {
       int asked = guest;
       view.append("\nguest ").append(park.coins(guest)).append(' ').append(park.rides(guest))
           .append(" in ").append(Check.outcome(() -> park.queueOf(asked)));
     }
-    for (int booking = 0; booking < park.bookingCount(); booking++) {
+    int bookings = park.bookingCount();
+    for (int booking = 0; booking < bookings; booking++) {
       view.append("\nbooking ").append(park.bookedGuest(booking)).append(' ')
           .append(park.bookedSlide(booking)).append(' ').append(park.start(booking)).append(' ')
           .append(park.hasStarted(booking));
     }
-    for (int back = 0; back < park.finishCount(); back++) {
+    int finishes = park.finishCount();
+    for (int back = 0; back < finishes; back++) {
       view.append("\nfinish ").append(park.finishedGuest(back)).append(' ')
           .append(park.finishedSlide(back)).append(' ').append(park.finishMinute(back));
     }
